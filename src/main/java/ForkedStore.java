@@ -566,8 +566,12 @@ public final class ForkedStore {
             boolean isLess = false;
             boolean isGreater = false;
             for (int i = 0; i < MOST_USERS; i++) {
-                isLess |= numbers[i] < other.numbers[i];
-                isGreater |= numbers[i] > other.numbers[i];
+                if (numbers[i] < other.numbers[i]) {
+                    isLess = true;
+                }
+                if (numbers[i] > other.numbers[i]) {
+                    isGreater = true;
+                }
             }
             if (isLess) {
                 return isGreater ? INCOMPARABLE : AT_MOST;
@@ -604,13 +608,9 @@ public final class ForkedStore {
 
         void copyFrom(Entries other) {
             for (int i = 0; i < MOST_USERS; i++) {
-                copyEntry(other, i);
+                vectors[i].copyFrom(other.vectors[i]);
+                contents[i] = other.contents[i];
             }
-        }
-
-        void copyEntry(Entries other, int owner) {
-            vectors[owner].copyFrom(other.vectors[owner]);
-            contents[owner] = other.contents[owner];
         }
 
         /** Takes over the entries whose owners have gone further in the other ones; answers how many. */
@@ -618,7 +618,8 @@ public final class ForkedStore {
             int replaced = 0;
             for (int i = 0; i < MOST_USERS; i++) {
                 if (other.vectors[i].numbers[i] > vectors[i].numbers[i]) {
-                    copyEntry(other, i);
+                    vectors[i].copyFrom(other.vectors[i]);
+                    contents[i] = other.contents[i];
                     replaced++;
                 }
             }
