@@ -9,8 +9,10 @@ import java.util.List;
  * (vectors are never changed, views keep whole copies): both must answer the same.
  */
 public final class ModelTest {
-    private static final int RUNS = 1200;
-    private static final int CALLS = 512;
+    private static final int RUNS = 6000;
+    /** What an object answers to later calls is free. */
+    private static final int MOST_CALLS = 512;
+    private static final int MOST_CALLS_AT_ONCE = 9;
 
     /** How often what is rare has happened, so that the runs are known to reach it. */
     private static final int[] REACHED = new int[12];
@@ -25,6 +27,7 @@ public final class ModelTest {
     private final int resetEvery;
     private ForkedStore store;
     private Model model;
+    private int made;
 
     private ModelTest(int number) {
         seed = number * 7919L + 17;
@@ -45,12 +48,20 @@ public final class ModelTest {
     private void run(int number) {
         store = new ForkedStore();
         model = new Model();
-        for (int i = 0; i < CALLS && Due.wrongSoFar() == 0; i++) {
-            call("run " + number + " call " + i + " ");
-            if (i % 8 == 0) {
-                Due.due("picture in run " + number + " behind call " + i, Due.picture(store), model.picture());
-            }
+        made = 0;
+        while (made + MOST_CALLS_AT_ONCE + callsOfPicture() <= MOST_CALLS && Due.wrongSoFar() == 0) {
+            call("run " + number + " call " + made + " ");
         }
+        // The last call may have made the picture larger than there is room for.
+        if (made + callsOfPicture() <= MOST_CALLS) {
+            Due.due("picture behind run " + number, Due.picture(store), model.picture());
+        }
+    }
+
+    private int callsOfPicture() {
+        int u = model.u;
+        int ofUsers = 6 + 1 + u * (2 + 8 + 4 * (1 + u) + 2 * u);
+        return ofUsers + model.views.size() * (1 + 4 + 1 + u * (1 + u + 1)) + 1 + 3;
     }
 
     private int below(int bound) {
@@ -77,6 +88,7 @@ public final class ModelTest {
         int b = someUser();
         int v = someView();
         int w = someView();
+        made++;
         if (kind < 14) {
             int value = below(40) == 0 ? (below(2) * 2 - 1) * (1000 + below(2)) : below(2001) - 1000;
             Due.due(at + "write(" + a + ", " + value + ")", store.write(a, value), model.write(a, value));
@@ -108,6 +120,7 @@ public final class ModelTest {
             int users = below(30) == 0 ? oddNumber() : 2 + below(4);
             Due.due(at + "reset(" + users + ")", store.reset(users), model.reset(users));
         } else {
+            made += 2;
             Due.due(at + "forkedPairs()", store.forkedPairs(), model.forkedPairs());
             Due.due(at + "tellingLetter()", store.tellingLetter(), model.tellingLetter());
             Due.due(at + "unaware()", store.unaware(), model.unaware());
@@ -131,6 +144,7 @@ public final class ModelTest {
     private void tell(String at, int a, int b, int v) {
         int what = below(11) - 1;
         int c = someUser();
+        made += 8;
         Due.due(at + "count(" + what + ")", store.count(what), model.count(what));
         Due.due(at + "user(" + a + ", " + what + ")", store.user(a, what), model.user(a, what));
         Due.due(at + "vector(" + a + ", " + what + ", " + c + ")", store.vector(a, what, c), model.vector(a, what, c));

@@ -217,6 +217,28 @@ public final class OperationEdgeTest {
             x.reset(3);
             Due.due("behind alarm " + alarm, Due.picture(x), Due.picture(new ForkedStore()));
         }
+        // What all users wrote in view 0 is gone, for fewer users and then for all of them again.
+        for (int next = 2; next <= 5; next++) {
+            ForkedStore x = fiveHaveWritten();
+            x.reset(next);
+            Due.due("behind reset(" + next + ")", Due.picture(x), Due.picture(Due.storeFor(next)));
+            x.write(0, 1);
+            Due.due("view(0, 3)", x.view(0, 3), 1);
+            x = fiveHaveWritten();
+            x.reset(next);
+            x.write(0, 1);
+            x.reset(5);
+            Due.due("behind reset(5)", Due.picture(x), Due.picture(Due.storeFor(5)));
+        }
+    }
+
+    private static ForkedStore fiveHaveWritten() {
+        ForkedStore x = Due.storeFor(5);
+        for (int i = 0; i < 5; i++) {
+            x.write(i, 10 + i);
+            x.read(i, i);
+        }
+        return x;
     }
 
     private static void promise2TheTextStays() {

@@ -71,7 +71,6 @@ public final class OperationTest {
 
     private static void promise2ResetStartsAnew() {
         ForkedStore x = Due.storeFor(5);
-        String anew = Due.picture(x);
         Due.typeAll(x, "w01");
         for (int i = 0; i < 5; i++) {
             x.write(i, 10 + i);
@@ -88,7 +87,7 @@ public final class OperationTest {
         x.rollBack(1, 5);
         x.read(4, 2);
         Due.due("reset(5)", x.reset(5), 5);
-        Due.due("after reset", Due.picture(x), anew);
+        Due.due("after reset", Due.picture(x), Due.picture(Due.storeFor(5)));
         Due.due("readLetter(3)", x.readLetter(3), ForkedStore.NONE);
         Due.due("passProof(1, 2)", x.passProof(1, 2), ForkedStore.NOT_POSSIBLE);
         Due.due("rollBack(0, 1)", x.rollBack(0, 1), ForkedStore.NONE);
@@ -144,6 +143,8 @@ public final class OperationTest {
         Due.due("write(0, -1001)", x.write(0, -1001), ForkedStore.BAD_VALUE);
         Due.due("write(0, least)", x.write(0, Integer.MIN_VALUE), ForkedStore.BAD_VALUE);
         Due.due("after errors", Due.picture(x), before);
+        x = new ForkedStore();
+        x.write(0, 7);
         x.rollBack(0, 1);
         Due.due("write(0, 1)", x.write(0, 1), 1);
         before = Due.picture(x);

@@ -310,10 +310,11 @@ public final class ScriptEdgeTest {
         for (int u = 2; u <= 5; u++) {
             for (int digit = 0; digit <= 9; digit++) {
                 ForkedStore x = Due.storeFor(u);
+                ForkedStore y = Due.storeFor(u);
                 x.sendLetter(0, 1);
-                String before = Due.picture(x);
+                y.sendLetter(0, 1);
                 Due.due("g" + digit + "0g00", run(x, "g" + digit + "0g00"), digit < u ? 2 : 0);
-                Due.due("behind it", Due.picture(x), before);
+                Due.due("behind it", Due.picture(x), Due.picture(y));
             }
         }
         for (int alarm = 1; alarm <= 5; alarm++) {

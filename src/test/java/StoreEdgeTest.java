@@ -13,6 +13,7 @@ public final class StoreEdgeTest {
         promise7EachSetWithSomebodyElse();
         promise7NobodyIsAttached();
         promise7CopiesWhatIsRemembered();
+        promise7CopiesThisView();
         promise7BothGoOnAlone();
         promise8ReturnsTheViewBefore();
         promise8AUserWithAnAlarm();
@@ -140,6 +141,21 @@ public final class StoreEdgeTest {
             Due.due("rollBack(1, 1)", x.rollBack(1, 1), ForkedStore.NONE);
             Due.due("view(0, 1)", x.view(0, 1), remembered);
             Due.due("content(0, 0)", x.content(0, 0), operations);
+        }
+    }
+
+    private static void promise7CopiesThisView() {
+        for (int view = 0; view < 5; view++) {
+            ForkedStore x = Scenes.apart(5);
+            x.write(view, 50);
+            Due.due("fork of all who are attached to " + view, x.fork(view, 1 << view), 5);
+            Due.due("entries of the copy", Due.entries(x, 5), Due.entries(x, view));
+            Due.due("content(5, " + view + ")", x.content(5, view), 50);
+            Due.due("view(5, 1)", x.view(5, 1), 2);
+            Due.due("write in the copy", x.write(view, 60), 0);
+            Due.due("content(view, view)", x.content(view, view), 50);
+            Due.due("rollBack(5, 3)", x.rollBack(5, 3), 0);
+            Due.due("view(view, 1)", x.view(view, 1), 2);
         }
     }
 
@@ -440,6 +456,8 @@ public final class StoreEdgeTest {
                 Due.due("content(" + view + ", 2)", x.content(view, 2), 8);
                 Due.due("user(2, 0)", x.user(2, 0), view);
                 Due.due("count(1)", x.count(1), 6);
+                Due.due("what the view remembers", x.view(view, 1), view == other ? 1 : 0);
+                Due.due("what the other view remembers", x.view(other, 1), 1);
             }
         }
     }

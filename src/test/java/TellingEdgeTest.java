@@ -21,6 +21,7 @@ public final class TellingEdgeTest {
         promise21SignedOrKnown();
         promise22NoneToAllPairs();
         promise22EqualAndLesserVectors();
+        promise22ToPromise24KnownNotSigned();
         promise23TheLeastOfAll();
         promise23OnlyToUsersWithoutAnAlarm();
         promise24AllToNobody();
@@ -346,6 +347,25 @@ public final class TellingEdgeTest {
         Due.due("tellingLetter()", x.tellingLetter(), ForkedStore.NONE);
     }
 
+    /** A user that has signed nothing knows from a letter what is incomparable with the others' vectors. */
+    private static void promise22ToPromise24KnownNotSigned() {
+        for (int reader = 0; reader < 4; reader++) {
+            int writer = (reader + 1) % 4;
+            int other = (reader + 2) % 4;
+            ForkedStore x = Due.storeFor(4);
+            x.fork(0, 1 << writer);
+            x.write(writer, 1);
+            x.write(other, 1);
+            x.sendLetter(writer, reader);
+            Due.due("before it is read", x.forkedPairs(), 1);
+            Due.due("readLetter", x.readLetter(reader), 1);
+            Due.due("forkedPairs()", x.forkedPairs(), 2);
+            int least = Math.min(writer, reader);
+            Due.due("tellingLetter()", x.tellingLetter(), Math.min(10 * least + other, 10 * other + least));
+            Due.due("unaware()", x.unaware(), 1 << (reader + 3) % 4);
+        }
+    }
+
     private static void promise23TheLeastOfAll() {
         for (int u = 2; u <= 5; u++) {
             Due.due("no such letter", Due.storeFor(u).tellingLetter(), ForkedStore.NONE);
@@ -382,6 +402,15 @@ public final class TellingEdgeTest {
         x.readLetter(0);
         Due.due("all have an alarm", x.tellingLetter(), ForkedStore.NONE);
         Due.due("forkedPairs()", x.forkedPairs(), 3);
+        for (int u = 2; u <= 5; u++) {
+            ForkedStore y = Due.storeFor(u);
+            y.fork(0, 1 << (u - 1));
+            y.write(0, 1);
+            y.write(u - 1, 1);
+            y.sendLetter(0, u - 1);
+            y.readLetter(u - 1);
+            Due.due("only from the last user", y.tellingLetter(), 10 * (u - 1));
+        }
         int[] due = {ForkedStore.NONE, 2, ForkedStore.NONE, 10, 2};
         for (int alarm = 1; alarm <= 5; alarm++) {
             Due.due("with alarm " + alarm, Scenes.alarmed(alarm).tellingLetter(), due[alarm - 1]);
@@ -416,6 +445,17 @@ public final class TellingEdgeTest {
         int[] due = {5, 0, 5, 4, 0};
         for (int alarm = 1; alarm <= 5; alarm++) {
             Due.due("the others with alarm " + alarm, Scenes.alarmed(alarm).unaware(), due[alarm - 1]);
+        }
+        // The entry is back: but for its alarm, user i could not find out anything.
+        for (int i = 0; i < 3; i++) {
+            ForkedStore x = new ForkedStore();
+            x.write(i, 1);
+            x.fork(0, 1 << (i + 1) % 3);
+            x.rollBack(0, 1);
+            Due.due("read", x.read(i, i), 1);
+            x.mix(0, 1);
+            Due.due("check", x.check((i + 2) % 3), 0);
+            Due.due("all but " + i, x.unaware(), 7 - (1 << i));
         }
     }
 

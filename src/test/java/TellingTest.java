@@ -286,7 +286,7 @@ public final class TellingTest {
     }
 
     private static void tellingChangesNothing() {
-        ForkedStore x = forked(5);
+        ForkedStore x = forked(3);
         x.sendLetter(0, 1);
         String before = Due.picture(x);
         Due.due("told twice", Due.picture(x), before);
